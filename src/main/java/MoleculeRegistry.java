@@ -320,7 +320,7 @@ public final class MoleculeRegistry {
         private static final char END = 0;
         private static final int NOT_WRITTEN = -1;
 
-        private char[] text;
+        private final char[] text = new char[MOST_CHARACTERS];
         private int length;
         private int position;
         private boolean asPattern;
@@ -338,8 +338,8 @@ public final class MoleculeRegistry {
         private int depth;
 
         void start(char[] newText, int newLength, boolean newAsPattern) {
-            text = newText;
-            length = newLength;
+            length = Math.min(newLength, MOST_CHARACTERS);
+            System.arraycopy(newText, 0, text, 0, length);
             asPattern = newAsPattern;
             position = 0;
             size = 0;
@@ -428,11 +428,11 @@ public final class MoleculeRegistry {
 
         private boolean readClosures(int a) {
             for (int n = 0; n < MOST_CHARACTERS; n++) {
-                int start = position;
+                int behindLast = position;
                 int link = readLink();
                 char digit = here();
                 if (digit < '1' || digit > '9') {
-                    position = start;
+                    position = behindLast;
                     return true;
                 }
                 position++;
@@ -644,30 +644,31 @@ public final class MoleculeRegistry {
 
     /** Puts the atoms of one graph to different atoms of another, bond to bond. */
     private static final class Matcher {
-        private Graph part;
-        private Graph whole;
+        // For each atom of the part the set of the atoms it could go to by itself, and where it is put.
         private final int[] choices = new int[MOST_ATOMS];
         private final int[] places = new int[MOST_ATOMS];
 
         /** With as many atoms and bonds on both sides, no atom and no bond can be left over. */
         boolean areSame(Graph first, Graph second) {
             return first.size == second.size && first.bondCount == second.bondCount
-                    && chooses(first, second, 0) && canPlace(0, (1 << second.size) - 1);
+                    && findChoices(first, second, 0) && canPlace(first, second, 0, everyAtom(second));
         }
 
         boolean isIn(Graph pattern, Graph molecule) {
             return pattern.size <= molecule.size
-                    && chooses(pattern, molecule, HYDROGENS) && canPlace(0, (1 << molecule.size) - 1);
+                    && findChoices(pattern, molecule, HYDROGENS) && canPlace(pattern, molecule, 0, everyAtom(molecule));
         }
 
-        /** Finds for each atom of the part where it could go by itself; false when one can go nowhere. */
-        private boolean chooses(Graph newPart, Graph newWhole, int ignored) {
-            part = newPart;
-            whole = newWhole;
+        private static int everyAtom(Graph graph) {
+            return (1 << graph.size) - 1;
+        }
+
+        /** False when an atom can go nowhere. */
+        private boolean findChoices(Graph part, Graph whole, int ignored) {
             for (int a = 0; a < part.size; a++) {
                 choices[a] = 0;
                 for (int b = 0; b < whole.size; b++) {
-                    if (fits(part.codes[a], whole.codes[b] & ~ignored) && hasBondsFor(a, b)) {
+                    if (fits(part.codes[a], whole.codes[b] & ~ignored) && hasBondsFor(part, a, whole, b)) {
                         choices[a] |= 1 << b;
                     }
                 }
@@ -687,7 +688,7 @@ public final class MoleculeRegistry {
         }
 
         /** Leaves out early what could only fail late, when many atoms have been placed. */
-        private boolean hasBondsFor(int a, int b) {
+        private static boolean hasBondsFor(Graph part, int a, Graph whole, int b) {
             for (int kind = SINGLE; kind <= ANY_BOND; kind++) {
                 if (part.degree(a, kind) > whole.degree(b, kind)) {
                     return false;
@@ -697,7 +698,7 @@ public final class MoleculeRegistry {
         }
 
         /** Whether the atoms from a on can be placed on the free ones; those before a are placed. */
-        private boolean canPlace(int a, int free) {
+        private boolean canPlace(Graph part, Graph whole, int a, int free) {
             if (a >= part.size) {
                 return true;
             }
@@ -711,7 +712,7 @@ public final class MoleculeRegistry {
             for (int b = 0; b < whole.size; b++) {
                 if ((set >> b & 1) != 0) {
                     places[a] = b;
-                    if (canPlace(a + 1, free & ~(1 << b))) {
+                    if (canPlace(part, whole, a + 1, free & ~(1 << b))) {
                         return true;
                     }
                 }
