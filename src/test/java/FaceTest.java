@@ -21,15 +21,21 @@ final class FaceTest {
         "int atoms(int)", "int atom(int, int)", "int bond(int, int, int)",
     };
 
+    private static final String LIBRARY = "Arrays|ArrayList|List|Iterator|NoSuchElementException";
+
     public static void main(String[] args) throws IOException {
         Class<?> face = MoleculeRegistry.class;
         Checks.due("the class", Modifier.toString(face.getModifiers()), "public final");
         Set<String> names = methods(face);
         constructorsAndFields(face);
         for (Class<?> inside : face.getDeclaredClasses()) {
-            Checks.due(inside.getSimpleName(), Modifier.toString(inside.getModifiers()), "private static final");
+            int modifiers = inside.getModifiers();
+            Checks.due(inside + " is static", Modifier.isStatic(modifiers), true);
+            Checks.due(inside + " is seen outside", Modifier.isPublic(modifiers) || Modifier.isProtected(modifiers), false);
             for (Method method : inside.getDeclaredMethods()) {
-                Checks.due("a name of the face at " + method, names.contains(method.getName()), false);
+                boolean hidden = Modifier.isPrivate(method.getModifiers()) && names.contains(method.getName());
+                Checks.due("a private method with a name of the face, " + method, hidden, false);
+                Checks.due("a lambda, " + method, method.getName().startsWith("lambda$"), false);
                 Checks.due("parameters of " + method, method.getParameterCount() <= 7, true);
             }
             fields(inside);
@@ -53,6 +59,7 @@ final class FaceTest {
             boolean isPublic = Modifier.isPublic(method.getModifiers());
             Checks.due(method + " is public or private", isPublic || Modifier.isPrivate(method.getModifiers()), true);
             Checks.due(method + " bears a public name", !isPublic && names.contains(method.getName()), false);
+            Checks.due("a lambda, " + method, method.getName().startsWith("lambda$"), false);
         }
         return names;
     }
@@ -90,13 +97,13 @@ final class FaceTest {
     }
 
     private static void words(String source) {
-        String[] barred = {"->", "::", "synchronized", "assert ", "finally", "instanceof", "while (true)", "System.out", "catch",
-            "package ", "static {", "HashMap", "Random", "Thread"};
+        String[] barred = {"::", "synchronized", "assert ", "finally", "while (true)", "System.out", "package ", "static {",
+            "HashMap", "Random", "Thread", "getMessage", "Exact("};
         for (String word : barred) {
             Checks.due("'" + word + "' stands in the source", source.contains(word), false);
         }
         for (String line : source.split("\n")) {
-            boolean other = line.startsWith("import ") && !line.equals("import java.util.Arrays;");
+            boolean other = line.startsWith("import ") && !line.matches("import java[.]util[.](" + LIBRARY + ");");
             Checks.due("other import: " + line, other, false);
         }
     }

@@ -5,7 +5,8 @@ import java.util.Random;
 /** All promises: long runs of calls, chosen by chance from a fixed seed, on the class and on the model. */
 final class ModelTest {
     private static final int RUNS = 1500;
-    private static final int CALLS = 512;
+    // What one step calls at most: wipe, type five times, and a call that reads the buffer.
+    private static final int CALLS_OF_A_STEP = 7;
 
     private final Random random;
     private final MoleculeRegistry registry = new MoleculeRegistry();
@@ -33,7 +34,7 @@ final class ModelTest {
     }
 
     private boolean run() {
-        while (calls.size() < CALLS) {
+        while (calls.size() + CALLS_OF_A_STEP <= Counted.MOST_CALLS) {
             if (!step()) {
                 int from = Math.max(0, calls.size() - 40);
                 System.out.println("after " + calls.subList(from, calls.size()));

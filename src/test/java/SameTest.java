@@ -114,7 +114,7 @@ final class SameTest {
 
     /** Writes one molecule: a tree of parts from some atom on, closures for the bonds that are left. */
     private static final class Writer {
-        private final MoleculeRegistry registry;
+        private final Counted registry;
         private final int id;
         private final Random random;
         private final int size;
@@ -123,7 +123,7 @@ final class SameTest {
         private final List<List<Integer>> children = new ArrayList<>();
         private final List<int[]> rings = new ArrayList<>();
 
-        Writer(MoleculeRegistry registry, int id, Random random) {
+        Writer(Counted registry, int id, Random random) {
             this.registry = registry;
             this.id = id;
             this.random = random;
