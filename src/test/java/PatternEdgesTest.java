@@ -226,6 +226,12 @@ final class PatternEdgesTest {
         c.finds("*(*)(*)*", "5");
         c.finds("C(C)C", "3 4 5");
         c.finds("*1**1", "4");
+        // Walks that could only be made by going back over an atom.
+        Checks d = Checks.with("CC(C)CC", "C1CC1C", "CCCCC");
+        d.finds("CCCCC", "3");
+        d.finds("*~*~*~*~*", "3");
+        d.finds("C1CCC1", "");
+        d.finds("CCCC", "1 2 3");
         // Others may be left over, and may be bound where the pattern has no bond.
         c.finds("C", "1 2 3 4 5");
         c.finds("CCC", "3 4 5");

@@ -92,6 +92,9 @@ final class RegistryEdgesTest {
         Checks.due("remove", c.remove(2), 1);
         Checks.due("gone, so it is new", c.register("OC"), 5);
         Checks.due("as it is written now", c.registry.atom(5, 0) & 127, (int) 'O');
+        Checks full = Checks.with(Checks.TWELVE);
+        Checks.due("the first when there is no room", full.register("[CH4]"), 1);
+        Checks.due("the last when there is no room", full.register("ON"), 12);
     }
 
     private static void lookupAnswers() {
@@ -317,18 +320,32 @@ final class RegistryEdgesTest {
             Checks.due("recover", c.registry.recover(), 1);
             Checks.due("it alone is gone", c.registry.count(), 11);
             Checks.due("it is gone", c.lookup("ON"), 0);
-            Checks.due("the next is new", c.register("NO"), 13);
             // The log is empty: a failure before the next mark does not bring the old one back.
-            c.registry.fail(1);
-            Checks.due("remove", c.remove(1), -2);
-            Checks.due("recover", c.registry.recover(), 0);
-            Checks.due("nothing went", c.registry.count(), 12);
-            c.registry.fail(2);
-            Checks.due("remove", c.remove(1), -2);
-            Checks.due("recover", c.registry.recover(), 0);
-            Checks.due("nothing went", c.registry.count(), 12);
-            Checks.due("it is there", c.lookup("NO"), 13);
+            for (int early = 1; early <= 2; early++) {
+                c.registry.fail(early);
+                Checks.due("remove", c.remove(1), -2);
+                Checks.due("recover", c.registry.recover(), 0);
+                Checks.due("nothing went", c.registry.count(), 11);
+            }
+            Checks.due("the next is new", c.register("NO"), 13);
+            notTwice(n);
         }
+    }
+
+    /** With room for more, so that a second one of it would be seen. */
+    private static void notTwice(int n) {
+        Checks c = Checks.with("C", "N");
+        c.registry.fail(n);
+        Checks.due("register", c.register("O"), -2);
+        Checks.due("recover", c.registry.recover(), 1);
+        Checks.due("count", c.registry.count(), 3);
+        c.finds("*", "1 2 3");
+        Checks.due("remove", c.remove(3), 1);
+        Checks.due("there is no other", c.lookup("O"), 0);
+        c.registry.fail(n);
+        Checks.due("remove", c.remove(1), -2);
+        Checks.due("recover", c.registry.recover(), 1);
+        Checks.due("the other is left", c.lookup("N") + c.registry.count(), "21");
     }
 
     private static void noMoreFailures() {

@@ -22,6 +22,7 @@ final class TextEdgesTest {
         theDigitMayOpenAnew();
         bondsOfLinks();
         linksOfAPair();
+        aFourIsOnlyMadeSo();
         bondsOfAromaticAtoms();
         Checks.end();
     }
@@ -272,6 +273,22 @@ final class TextEdgesTest {
         Checks.due("-, then nothing", c.registry.bond(2, 0, 3), 1);
         Checks.due("- twice", c.registry.bond(3, 0, 4), 1);
         Checks.due("nothing twice", c.registry.bond(4, 0, 5), 4);
+    }
+
+    private static void aFourIsOnlyMadeSo() {
+        Checks.sentence("A 4 is only made so");
+        for (char link = 33; link <= 126; link++) {
+            Checks c = new Checks();
+            if (!Character.isLetter(link) && c.register("o" + link + "o").equals("1")) {
+                Checks.due("bond of o" + link + "o", c.registry.bond(1, 0, 1), 1);
+                Checks.due("the link", link, '-');
+            }
+        }
+        Checks c = Checks.with("oo", "o1oo1", "oC", "Cs", "CC", "o1CC1");
+        Checks.due("bonds of aromatic atoms", c.registry.bond(1, 0, 1) + c.registry.bond(2, 0, 2), 8);
+        Checks.due("bonds of one aromatic atom", c.registry.bond(3, 0, 1) * 10 + c.registry.bond(4, 0, 1), 11);
+        Checks.due("bonds of no aromatic atom", c.registry.bond(5, 0, 1) * 10 + c.registry.bond(6, 1, 2), 11);
+        Checks.due("a closure of one aromatic atom", c.registry.bond(6, 0, 2), 1);
     }
 
     private static void bondsOfAromaticAtoms() {
